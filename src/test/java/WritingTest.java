@@ -121,7 +121,8 @@ public final class WritingTest {
             {"core", "coal"}, {"core", "co"}, {"core", "coresx"}, {"core", "ocre"},
             {"core", "erco"}, {"a", "bc"}, {"a", "bcd"}, {"ab", "ba"}, {"core", "orec"},
             {"core", "coer"}, {"abcd", "bcde"}, {"core", "xcorex"}, {"abcde", "axcye"},
-            {"a-b", "c-d"}, {"aab", "baa"}
+            {"a-b", "c-d"}, {"aab", "baa"}, {"a", "aaa"}, {"a", "a-a-a"}, {"ab", "abab"},
+            {"aaaaaaaaaa", "aaaaaaaa"}
         };
         for (String[] pair : far) {
             CHECK.due("far " + pair[0] + " " + pair[1], second(pair[0], pair[1]), 1);
