@@ -33,16 +33,30 @@ public final class FaceTest {
     };
 
     public static void main(String[] args) {
-        Check check = new Check("FaceTest");
-        check.due("NONE", RegistryLog.NONE, -1);
-        check.due("the class is public and final", RegistryLog.class.getModifiers(),
+        Check.run(FaceTest.class);
+    }
+
+    static void face_theClass_isPublicAndFinal() {
+        Check.due("modifiers", RegistryLog.class.getModifiers(),
                 Modifier.PUBLIC | Modifier.FINAL);
-        check.due("the methods", seenMethods(), sorted(METHODS));
-        check.due("the fields", seenFields(), "[public static final int RegistryLog.NONE]");
+    }
+
+    static void face_none_isMinus1() {
+        Check.due("NONE", RegistryLog.NONE, -1);
+    }
+
+    static void face_methods_areTheDocumentsAlone() {
+        Check.due("the methods", seenMethods(), sorted(METHODS));
+    }
+
+    static void face_fields_areTheDocumentsAlone() {
+        Check.due("the fields", seenFields(), "[public static final int RegistryLog.NONE]");
+    }
+
+    static void face_constructors_areTheDocumentsAlone() {
         Constructor<?>[] made = RegistryLog.class.getDeclaredConstructors();
-        check.due("the constructors", made.length, 1);
-        check.due("the constructor", made[0].toString(), "public RegistryLog()");
-        check.end();
+        Check.due("how many constructors", made.length, 1);
+        Check.due("the constructor", made[0].toString(), "public RegistryLog()");
     }
 
     private static String sorted(String[] lines) {

@@ -295,7 +295,7 @@ final class Model {
         return proof.size();
     }
 
-    private static List<Long> insideProof(int i, List<Long> d) {
+    static List<Long> insideProof(int i, List<Long> d) {
         if (d.size() == 1) {
             return new ArrayList<>();
         }
@@ -316,7 +316,7 @@ final class Model {
         return proof.size();
     }
 
-    private static List<Long> growthProof(int m, List<Long> d, boolean w) {
+    static List<Long> growthProof(int m, List<Long> d, boolean w) {
         List<Long> p = new ArrayList<>();
         if (m == d.size()) {
             if (!w) {

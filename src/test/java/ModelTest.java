@@ -17,9 +17,8 @@ public final class ModelTest {
         Integer.MIN_VALUE, Integer.MAX_VALUE, -2, -1, 4, 7, 8, 119, 120, 121, 999, 1000
     };
 
-    private final Check check = new Check("ModelTest");
     private Random random;
-    private RegistryLog x;
+    private Desk x;
     private Model y;
     private int calls;
     private int names;
@@ -28,21 +27,24 @@ public final class ModelTest {
     private int refused;
 
     public static void main(String[] args) {
+        Check.run(ModelTest.class);
+    }
+
+    static void model_drawnRuns_answerAsTheModel() {
         ModelTest test = new ModelTest();
         for (int seed = 0; seed < RUNS; seed++) {
             test.run(seed);
         }
         System.out.println(test.accepted + " rows came, " + test.proven + " proofs held, "
                 + test.refused + " were refused");
-        test.check.due("enough rows came", test.accepted > 20 * RUNS, true);
-        test.check.due("enough proofs held", test.proven > RUNS, true);
-        test.check.due("enough proofs were refused", test.refused > RUNS, true);
-        test.check.end();
+        Check.due("enough rows came", test.accepted > 20 * RUNS, true);
+        Check.due("enough proofs held", test.proven > RUNS, true);
+        Check.due("enough proofs were refused", test.refused > RUNS, true);
     }
 
     private void run(int seed) {
         random = new Random(seed);
-        x = new RegistryLog();
+        x = new Desk();
         y = new Model();
         calls = 0;
         names = 1 + random.nextInt(NAMES.length);
@@ -76,12 +78,12 @@ public final class ModelTest {
 
     private void due(String call, long got, long want) {
         calls++;
-        check.due(call, got, want);
+        Check.due(call, got, want);
     }
 
     private void due(String call, boolean got, boolean want) {
         calls++;
-        check.due(call, got, want);
+        Check.due(call, got, want);
     }
 
     private int draw(int bound) {
@@ -99,20 +101,6 @@ public final class ModelTest {
         }
     }
 
-    private interface Writing {
-        int call();
-    }
-
-    private static int answer(Writing w) {
-        try {
-            return w.call();
-        } catch (IllegalArgumentException e) {
-            return Desk.ARGUMENT;
-        } catch (IllegalStateException e) {
-            return Desk.STATE;
-        }
-    }
-
     private void write() {
         int person = draw(3);
         int second = draw(5);
@@ -123,16 +111,16 @@ public final class ModelTest {
         int got;
         int want;
         if (kind == 0) {
-            got = answer(() -> x.publish(person, second, sum));
+            got = x.publish("", person, second, sum);
             want = y.publish(person, second, sum);
         } else if (kind == 1) {
-            got = answer(() -> x.yank(person, second, on));
+            got = x.yank("", person, second, on);
             want = y.yank(person, second, on);
         } else if (kind == 2) {
-            got = answer(() -> x.grant(person, second, on));
+            got = x.grant("", person, second, on);
             want = y.grant(person, second, on);
         } else {
-            got = answer(() -> x.move(person));
+            got = x.move("", person);
             want = y.move(person);
         }
         accepted += want >= 0 ? 1 : 0;
@@ -147,7 +135,7 @@ public final class ModelTest {
             int sum = random.nextInt();
             int want = y.publish(0, version, sum);
             accepted += want >= 0 ? 1 : 0;
-            due("publish", answer(() -> x.publish(0, version, sum)), want);
+            due("publish", x.publish("", 0, version, sum), want);
         }
     }
 
@@ -157,18 +145,18 @@ public final class ModelTest {
         type(name());
         switch (random.nextInt(4)) {
             case 0:
-                due("founder(" + mirror + ")", x.founder(mirror), y.founder(mirror));
+                due("founder(" + mirror + ")", x.founder("", mirror), y.founder(mirror));
                 break;
             case 1:
-                due("has(" + mirror + ", " + asked + ")", x.has(mirror, asked),
+                due("has(" + mirror + ", " + asked + ")", x.has("", mirror, asked),
                         y.has(mirror, asked));
                 break;
             case 2:
-                due("version(" + mirror + ", " + asked + ")", x.version(mirror, asked),
+                due("version(" + mirror + ", " + asked + ")", x.version("", mirror, asked),
                         y.version(mirror, asked));
                 break;
             default:
-                due("sum(" + mirror + ", " + asked + ")", x.sum(mirror, asked),
+                due("sum(" + mirror + ", " + asked + ")", x.sum("", mirror, asked),
                         y.sum(mirror, asked));
                 break;
         }
