@@ -174,6 +174,13 @@ public final class Promise06MoveTest {
         d.refused(d.seen(), "move", d.move("core>core", 0), S);
     }
 
+    static void promise06_toTheSameBehindAMove_itMayNotCome() {
+        Desk d = Desk.withCore();
+        d.move("core>kernel", 0);
+        d.refused(d.seen(), "move", d.move("kernel>kernel", 0), S);
+        Check.due("founder", d.founder("kernel", LOG), 0);
+    }
+
     static void promise06_toAKnownName_itMayNotCome() {
         Desk d = Desk.withCore();
         d.publish("zebra", 1, 0, 0);
@@ -203,6 +210,15 @@ public final class Promise06MoveTest {
         Check.due("move to c-ore", d.move("core>c-ore", 0), 1);
         Check.due("move to cores", d.move("c-ore>cores", 0), 2);
         Check.due("move to bores", d.move("cores>bores", 0), 3);
+    }
+
+    static void promise06_toANameNearTheLastOfThreeWhichIsMoved_itMayCome() {
+        Desk d = Desk.withCore();
+        d.publish("zebra", 1, 0, 0);
+        d.publish("mantle", 1, 0, 0);
+        Check.due("move", d.move("mantle>mantles", 1), 3);
+        d.refused(d.seen(), "NEAR the second", d.move("mantles>zebras", 1), S);
+        d.refused(d.seen(), "NEAR the first", d.move("mantles>cores", 1), S);
     }
 
     static void promise06_toANameNearTheMovedOneAndAnother_itMayNotCome() {

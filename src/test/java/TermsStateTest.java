@@ -163,6 +163,22 @@ public final class TermsStateTest {
         Check.due("NEAR the middle one", d.publish("kernels", 1, 0, 0), 7);
     }
 
+    static void terms_twoNamesMoved_keepWhatEachHad() {
+        Desk d = withRichCore();
+        d.publish("zebra", 6, 2, 99);
+        d.grant("zebra", 6, 7, true);
+        d.move("core>kernel", 0);
+        d.move("zebra>core-x", 6);
+        Check.due("founder of the first", d.founder("kernel", LOG), 0);
+        Check.due("founder of the second", d.founder("core-x", LOG), 6);
+        Check.due("has of the first", d.has("kernel", LOG, 7), false);
+        Check.due("has of the second", d.has("core-x", LOG, 7), true);
+        Check.due("version of the first", d.version("kernel", LOG, 2), 2);
+        Check.due("version of the second", d.version("core-x", LOG, 2), 1);
+        Check.due("sum of the first", d.sum("kernel", LOG, 2), 22);
+        Check.due("sum of the second", d.sum("core-x", LOG, 2), 99);
+    }
+
     static void terms_anotherNameWithTheSameVersions_isItsOwn() {
         Desk d = withRichCore();
         d.publish("zebra", 6, 2, 99);
