@@ -5,7 +5,8 @@ import java.util.Comparator;
 
 /**
  * Runs the cases of a test class, and prints every answer that is not the one that is due. A case
- * is a static method whose name begins with the promise (or with terms), then tells the case.
+ * is a static method whose name begins with what it is about (such as promise02, terms or readme),
+ * then tells the case.
  */
 final class Check {
     private static String running = "";
@@ -57,7 +58,7 @@ final class Check {
 
     private static boolean isCase(Method method) {
         String name = method.getName();
-        return name.matches("(promise[0-9]{2}|terms|face|model)_.*");
+        return name.matches("(promise[0-9]{2}|terms|face|language|readme|model)_.*");
     }
 
     private static boolean passes(Method method) {

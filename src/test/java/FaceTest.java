@@ -2,6 +2,8 @@ import java.lang.reflect.Constructor;
 import java.lang.reflect.Field;
 import java.lang.reflect.Method;
 import java.lang.reflect.Modifier;
+import java.util.Arrays;
+import java.util.Set;
 import java.util.TreeSet;
 
 /** The public face is the document's and no more; of the rest nothing is seen from outside. */
@@ -47,6 +49,20 @@ public final class FaceTest {
 
     static void face_methods_areTheDocumentsAlone() {
         Check.due("the methods", seenMethods(), sorted(METHODS));
+    }
+
+    static void face_declaredExceptions_areTheDocumentsAlone() {
+        Set<String> writers = Set.of("publish", "yank", "grant", "move");
+        for (Method m : RegistryLog.class.getDeclaredMethods()) {
+            if (Modifier.isPublic(m.getModifiers())) {
+                Class<?>[] due = writers.contains(m.getName())
+                        ? new Class<?>[] {
+                            IllegalArgumentException.class, IllegalStateException.class}
+                        : new Class<?>[0];
+                Check.due("what " + m.getName() + " declares",
+                        Arrays.toString(m.getExceptionTypes()), Arrays.toString(due));
+            }
+        }
     }
 
     static void face_fields_areTheDocumentsAlone() {
